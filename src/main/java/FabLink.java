@@ -995,6 +995,10 @@ public final class FabLink {
             return isEvent(e) && enabled[e];
         }
 
+        boolean isTold(int e) {
+            return isEvent(e) && enabled[e] && reportCounts[e] > 0;
+        }
+
         /** 2, 33: the answer's byte. */
         int define(Items items) {
             int row = 3;
@@ -1288,7 +1292,7 @@ public final class FabLink {
 
         /** Whether a message was to be sent for the event. */
         boolean happen(int e) {
-            if (!tells(e)) {
+            if (!links.isTold(e) || !speaking || !variables.isOnline()) {
                 return false;
             }
             Body body = outbox.freshBody();
@@ -1307,10 +1311,6 @@ public final class FabLink {
             }
             outbox.send(6 | Message.REPLY_WANTED, 11, outbox.nextNumber());
             return true;
-        }
-
-        private boolean tells(int e) {
-            return links.isEnabled(e) && links.reportsOf(e) > 0 && speaking && variables.isOnline();
         }
     }
 
@@ -1440,6 +1440,9 @@ public final class FabLink {
 
         void carryOut() {
             switch (kind()) {
+                case ARE_YOU_THERE:
+                    outbox.freshBody().putName();
+                    break;
                 case READ:
                     tellValues();
                     break;
@@ -1470,8 +1473,7 @@ public final class FabLink {
                     answerInList(machine.obey(items));
                     break;
                 default:
-                    outbox.freshBody().putName();
-                    break;
+                    return;
             }
             if (taken.wantsReply()) {
                 outbox.sendReply(taken, taken.function() + 1);

@@ -62,17 +62,21 @@ public final class BodyTest {
         wrong("nothing but a list's byte", 1, 3, Items.row(1));
         wrong("half a size", 1, 3, Items.row(2, 0));
         wrong("two thirds of a size", 1, 3, Items.row(3, 0, 0));
-        wrong("k is 0", 1, 3, Items.row(0, 0));
+        wrong("k is 0", 1, 3, Items.row(0));
+        wrong("k is 0, and a size", 1, 3, Items.row(0, 0));
         wrong("too few items", 1, 3, Items.row(1, 2, 165, 1, 0));
         wrong("too few bytes", 1, 3, Items.row(1, 1, 165, 1));
         wrong("one byte behind it", 1, 3, Items.row(1, 0, 0));
         wrong("an item behind it", 1, 3, Items.list(), Items.list());
-        noItem("k is 0", 164, 1, 0);
+        noItem("k is 0", 164);
+        noItem("k is 0, and a size", 164, 1, 0);
         noItem("text too short", 65, 3, 'A', 'B');
     }
 
     private static void formats() {
-        int[][] widths = {{8, 1}, {9, 1}, {16, 1}, {25, 1}, {26, 2}, {28, 4}, {41, 1}, {42, 2}, {44, 4}, {36, 4}, {32, 8}};
+        int[][] widths = {
+            {8, 1}, {9, 1}, {16, 1}, {25, 1}, {26, 2}, {28, 4}, {41, 1}, {42, 2}, {44, 4}, {36, 4}, {32, 8},
+        };
         boolean[] known = new boolean[64];
         known[0] = true;
         for (int[] format : widths) {
@@ -104,9 +108,9 @@ public final class BodyTest {
         wrong("a list in many", 2, 41, Items.list(Items.text("X"), Items.nested(50, Items.n(1))));
         item("lists in five", Items.nested(4, Items.n(1)), 3);
         noItem("a list in six", Items.nested(5, Items.n(1)));
+        int[] deep = Items.nested(4, Items.n(1));
         right("many beside one another", 2, 41,
-                Items.list(Items.text("X"), Items.list(Items.nested(4, Items.n(1)), Items.nested(4, Items.n(1)), Items.n(1))),
-                taken);
+                Items.list(Items.text("X"), Items.list(deep, deep, Items.n(1))), taken);
     }
 
     private static void shapesOfRead() {
@@ -148,7 +152,8 @@ public final class BodyTest {
             wrong("an entry's number", 2, function, Items.table(Items.list(Items.b(1), Items.list())));
             wrong("an entry's list", 2, function, Items.table(Items.list(Items.n(1), Items.n(0))));
             wrong("in an entry's list", 2, function, Items.table(Items.list(Items.n(1), Items.list(Items.b(0)))));
-            wrong("the second entry", 2, function, Items.table(Items.entry(1), Items.list(Items.n(1), Items.list(Items.list()))));
+            wrong("the second entry", 2, function,
+                    Items.table(Items.entry(1), Items.list(Items.n(1), Items.list(Items.list()))));
             wrong("before what it means", 2, function, Items.table(Items.entry(99, 1, 2, 3, 4), Items.b(1)));
         }
     }

@@ -148,6 +148,8 @@ public final class ReportTest {
         events(host, 2, 11, 2, 10, 2);
         enable(host, 1, 1, 1, 6);
         enable(host, 1, 0, 2, 0);
+        enable(host, 1, 1, 6, 1);
+        enable(host, 1, 0, 0, 2);
         events(host, 2, 11, 2, 10, 2);
         enable(host, 0, 255);
         events(host, 12, 11, 12, 10, 12);

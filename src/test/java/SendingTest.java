@@ -9,6 +9,7 @@ public final class SendingTest {
         anyOtherByteIsAFailure();
         lostAfterFourFailures();
         failuresCountForEachMessage();
+        failuresOfOldOnesAreForgotten();
         onlyEightAreKept();
         theOrderStays();
         units();
@@ -125,6 +126,23 @@ public final class SendingTest {
         Check.same("one lost still", host.link.look(7), 1);
         Check.same("its fourth", host.link.tick(5), 0);
         Check.same("two lost", host.link.look(7), 2);
+    }
+
+    /** Each of many messages fails three times, and none is lost. */
+    private static void failuresOfOldOnesAreForgotten() {
+        FabLink link = new FabLink();
+        for (int i = 0; i < 20; i++) {
+            link.enable(true);
+            Check.same("three failures", link.tick(15), 3);
+            link.hear(4);
+            link.hear(6);
+            Check.same("sent", link.look(5), 0);
+            link.enable(false);
+            link.tick(45);
+            link.hear(4);
+            link.hear(6);
+        }
+        Check.same("none lost", link.look(7), 0);
     }
 
     private static void onlyEightAreKept() {

@@ -84,7 +84,8 @@ public final class SpeakingTest {
             Items.list(Items.b(0), Items.b(1), Items.nested(5, Items.n(1))),
         }) {
             Host other = greeting();
-            other.say(other.message(129, 14, Items.row(0, 0, 0, 1), body));
+            Check.same("no reply to a reply",
+                    other.say(other.message(129, 14, Items.row(0, 0, 0, 1), body)), Items.row(6));
             Check.same("speaking", other.link.look(1), 2);
             Check.same("the talk is closed", other.link.look(6), 0);
         }

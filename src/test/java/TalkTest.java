@@ -6,6 +6,7 @@ public final class TalkTest {
         closedByTime();
         timeOfEach();
         closedInTheMiddle();
+        openedWhereOneWasClosed();
         noMoreThanEight();
         complaintThatIsLost();
         disabledToo();
@@ -61,6 +62,26 @@ public final class TalkTest {
         host.link.tick(45);
         Check.messages("the others", host.hearAll(),
                 Host.complaint(9, 6, sent.get(2)), Host.complaint(9, 7, sent.get(3)));
+    }
+
+    /** A new talk's time begins with it, whatever those had that were closed. */
+    private static void openedWhereOneWasClosed() {
+        Host host = Host.reporting();
+        host.link.ring();
+        host.hearMessage();
+        host.link.tick(10);
+        host.link.ring();
+        int[] second = host.hearMessage();
+        host.link.tick(10);
+        host.say(host.message(6, 12, Items.row(0, 0, 0, 2)));
+        host.link.ring();
+        int[] third = host.hearMessage();
+        Check.same("34 units", host.link.tick(34), 0);
+        Check.same("the second", host.link.tick(1), 1);
+        Check.messages("the second", host.hearAll(), Host.complaint(9, 5, second));
+        Check.same("9 units", host.link.tick(9), 0);
+        Check.same("the third", host.link.tick(1), 1);
+        Check.messages("the third", host.hearAll(), Host.complaint(9, 6, third));
     }
 
     private static void noMoreThanEight() {

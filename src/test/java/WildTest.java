@@ -4,6 +4,10 @@ import java.util.Random;
 public final class WildTest {
     private static final int OBJECTS = 4000;
     private static final int CALLS = 512;
+    private static final String[] COMMANDS = {"START", "STOP", "PAUSE", "GO"};
+    private static final int[][] KINDS = {
+        {1, 1}, {1, 3}, {1, 13}, {1, 15}, {1, 17}, {2, 15}, {2, 33}, {2, 35}, {2, 37}, {2, 41}, {6, 12}, {1, 14},
+    };
 
     private final Random random;
     private final FabLink link = new FabLink();
@@ -83,8 +87,7 @@ public final class WildTest {
     }
 
     private int[] randomMessage() {
-        int[][] kinds = {{1, 1}, {1, 3}, {1, 13}, {1, 15}, {1, 17}, {2, 15}, {2, 33}, {2, 35}, {2, 37}, {2, 41}, {6, 12}, {1, 14}};
-        int[] kind = kinds[random.nextInt(kinds.length)];
+        int[] kind = KINDS[random.nextInt(KINDS.length)];
         int[] header = {0, 1, kind[0] | 128, kind[1], 128, 1, 0, 0, 0, 1 + random.nextInt(5)};
         if (random.nextInt(20) == 0) {
             header[random.nextInt(10)] = random.nextInt(256);
@@ -105,7 +108,7 @@ public final class WildTest {
             case 3:
                 return Items.list(Items.item(Items.BOOLEAN, random.nextInt(4)), Items.list());
             case 4:
-                return Items.list(Items.text(new String[] {"START", "STOP", "PAUSE", "GO"}[random.nextInt(4)]), Items.list());
+                return Items.list(Items.text(COMMANDS[random.nextInt(COMMANDS.length)]), Items.list());
             case 5:
                 return Items.list(Items.pair(small, randomItem(0)), Items.pair(2 + random.nextInt(4), randomItem(0)));
             case 6:

@@ -35,7 +35,8 @@ public final class WorkTest {
     }
 
     private static void unknownOnes() {
-        String[] names = {"", "X", "start", "STAR", "STARTS", "STOPP", "PAUS", "GO ", " GO", "G", "PAUSED", "STAXT"};
+        String[] names = {"", "X", "start", "STAR", "STARTS", "STOPP", "PAUS", "GO ", " GO", "G", "PAUSED", "STAXT",
+            "XTART", "XTOP", "XAUSE", "XO"};
         Host host = Host.online(2);
         for (String name : names) {
             host.command(name, 1);
@@ -109,7 +110,8 @@ public final class WorkTest {
         Check.messages("GO", host.command("GO", 0));
         Check.messages("STOP", host.command("STOP", 0), told(4, 3, 0));
         Check.messages("STOP again", host.command("STOP", 2));
-        Check.messages("no reply wanted", host.tell(2, 41, Items.list(Items.text("START"), Items.list())), told(5, 2, 1));
+        int[] start = Items.list(Items.text("START"), Items.list());
+        Check.messages("no reply wanted", host.tell(2, 41, start), told(5, 2, 1));
     }
 
     private static void eventOfTime() {
@@ -141,7 +143,8 @@ public final class WorkTest {
     /** Seven are to be sent: the event is the eighth, and the reply is lost at once. */
     private static void fullOutbox() {
         Host host = Host.reporting();
-        int[] block = Host.block(host.message(130, 41, host.nextSystem(), Items.list(Items.text("START"), Items.list())));
+        int[] start = Items.list(Items.text("START"), Items.list());
+        int[] block = Host.block(host.message(130, 41, host.nextSystem(), start));
         host.link.hear(5);
         for (int i = 0; i < 7; i++) {
             host.link.ring();
