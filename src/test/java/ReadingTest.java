@@ -29,9 +29,9 @@ public final class ReadingTest {
         for (int b = 0; b < 256; b++) {
             if (b != 5) {
                 Check.same("free hears " + b, link.hear(b), 0);
-                Check.same("free after " + b, link.look(0), Host.FREE);
             }
         }
+        Check.same("free still", link.look(0), Host.FREE);
         Check.same("5", link.hear(5), 1);
         Check.same("says 4", link.saidAt(0), 4);
         Check.same("reading", link.look(0), Host.READING);

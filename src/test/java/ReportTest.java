@@ -11,6 +11,7 @@ public final class ReportTest {
         linked();
         linksRefused();
         switched();
+        switchedAll();
         Check.end();
     }
 
@@ -69,22 +70,27 @@ public final class ReportTest {
     }
 
     private static void definitionsRefused() {
+        notDefined(1, Items.entry(2, 1), Items.entry(0, 1));
+        notDefined(1, Items.entry(5, 1));
+        notDefined(1, Items.entry(0));
+        notDefined(1, Items.entry(255, 9));
+        notDefined(1, Items.entry(2, 0, 1, 2, 3));
+        notDefined(1, Items.entry(1, 9, 9, 9, 9));
+        notDefined(3, Items.entry(2, 1), Items.entry(1, 1));
+        notDefined(3, Items.entry(1, 9));
+        notDefined(4, Items.entry(2, 1), Items.entry(3, 1, 6));
+        notDefined(4, Items.entry(3, 255));
+        notDefined(4, Items.entry(3, 6), Items.entry(1, 1), Items.entry(9, 1));
+        notDefined(3, Items.entry(1, 1), Items.entry(9, 1), Items.entry(3, 6));
+        notDefined(1, Items.entry(9, 1), Items.entry(3, 6), Items.entry(1, 1));
+        notDefined(4, Items.entry(1), Items.entry(3, 6));
+    }
+
+    /** Report 1 alone is there, before and after. */
+    private static void notDefined(int due, int[]... entries) {
         Host host = Host.online(3);
         define(host, 0, Items.entry(1, 0));
-        define(host, 1, Items.entry(2, 1), Items.entry(0, 1));
-        define(host, 1, Items.entry(5, 1));
-        define(host, 1, Items.entry(0));
-        define(host, 1, Items.entry(255, 9));
-        define(host, 1, Items.entry(2, 0, 1, 2, 3));
-        define(host, 1, Items.entry(1, 9, 9, 9, 9));
-        define(host, 3, Items.entry(2, 1), Items.entry(1, 1));
-        define(host, 3, Items.entry(1, 9));
-        define(host, 4, Items.entry(2, 1), Items.entry(3, 1, 6));
-        define(host, 4, Items.entry(3, 255));
-        define(host, 4, Items.entry(3, 6), Items.entry(1, 1), Items.entry(9, 1));
-        define(host, 3, Items.entry(1, 1), Items.entry(9, 1), Items.entry(3, 6));
-        define(host, 1, Items.entry(9, 1), Items.entry(3, 6), Items.entry(1, 1));
-        define(host, 4, Items.entry(1), Items.entry(3, 6));
+        define(host, due, entries);
         reports(host, 1, 0, 0, 0);
     }
 
@@ -128,17 +134,21 @@ public final class ReportTest {
     }
 
     private static void linksRefused() {
+        notLinked(1, Items.entry(1), Items.entry(2, 1, 2, 3));
+        notLinked(1, Items.entry(9, 9, 9, 9));
+        notLinked(4, Items.entry(1), Items.entry(6, 1));
+        notLinked(4, Items.entry(0));
+        notLinked(4, Items.entry(255, 9));
+        notLinked(5, Items.entry(1), Items.entry(2, 1, 4));
+        notLinked(5, Items.entry(2, 0));
+        notLinked(5, Items.entry(2, 5), Items.entry(6, 1), Items.entry(2, 1, 1, 1));
+        notLinked(4, Items.entry(6, 1), Items.entry(2, 1, 1, 1), Items.entry(2, 5));
+        notLinked(1, Items.entry(2, 1, 1, 1), Items.entry(2, 5), Items.entry(6, 1));
+    }
+
+    private static void notLinked(int due, int[]... entries) {
         Host host = withLinks();
-        link(host, 1, Items.entry(1), Items.entry(2, 1, 2, 3));
-        link(host, 1, Items.entry(9, 9, 9, 9));
-        link(host, 4, Items.entry(1), Items.entry(6, 1));
-        link(host, 4, Items.entry(0));
-        link(host, 4, Items.entry(255, 9));
-        link(host, 5, Items.entry(1), Items.entry(2, 1, 4));
-        link(host, 5, Items.entry(2, 0));
-        link(host, 5, Items.entry(2, 5), Items.entry(6, 1), Items.entry(2, 1, 1, 1));
-        link(host, 4, Items.entry(6, 1), Items.entry(2, 1, 1, 1), Items.entry(2, 5));
-        link(host, 1, Items.entry(2, 1, 1, 1), Items.entry(2, 5), Items.entry(6, 1));
+        link(host, due, entries);
         events(host, 2, 1, 2, 0, 2);
     }
 
@@ -151,14 +161,18 @@ public final class ReportTest {
         enable(host, 1, 1, 6, 1);
         enable(host, 1, 0, 0, 2);
         events(host, 2, 11, 2, 10, 2);
+    }
+
+    private static void switchedAll() {
+        Host host = withLinks();
         enable(host, 0, 255);
         events(host, 12, 11, 12, 10, 12);
         enable(host, 0, 0, 5);
         events(host, 12, 11, 12, 10, 2);
         enable(host, 0, 0, NONE);
         events(host, 2, 1, 2, 0, 2);
-        define(host, 0);
-        enable(host, 0, 128, 3);
-        events(host, 0, 0, 10, 0, 0);
+        Host unlinked = Host.online(3);
+        enable(unlinked, 0, 128, 3);
+        events(unlinked, 0, 0, 10, 0, 0);
     }
 }

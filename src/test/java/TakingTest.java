@@ -101,33 +101,28 @@ public final class TakingTest {
     }
 
     private static void otherFunction() {
-        Host host = Host.speaking();
-        int number = 2;
         for (int function : new int[] {5, 11, 19, 33, 255}) {
-            host.expectComplaint("1, " + function, 5, number, 1, function);
-            number++;
+            Host.speaking().expectComplaint("1, " + function, 5, 2, 1, function);
         }
         for (int function : new int[] {1, 3, 13, 17, 31, 39, 43, 255}) {
-            host.expectComplaint("2, " + function, 5, number, 2, function);
-            number++;
+            Host.speaking().expectComplaint("2, " + function, 5, 2, 2, function);
         }
     }
 
     private static void offline() {
         int[][] named = {{1, 1}, {1, 3}, {1, 15}, {2, 15}, {2, 33}, {2, 35}, {2, 37}, {2, 41}};
-        Host host = Host.speaking();
         for (int[] kind : named) {
+            Host host = Host.speaking();
             host.expect("offline " + kind[0] + ", " + kind[1], kind[0], kind[1], Items.row(), 0);
+            host.link.control(2);
+            host.tell(1, 15);
+            Check.same("offline by the host", host.link.look(2), 1);
+            host.expect("by the host " + kind[0] + ", " + kind[1], kind[0], kind[1], Items.row(), 0);
         }
+        Host host = Host.speaking();
         host.expect("whatever the body", 1, 1, Items.row(1, 2, 3), 0);
         host.expect("1, 13", 1, 13, Items.row(), 14, Items.list(Items.b(0), Items.list()));
         host.expect("1, 17", 1, 17, Items.row(), 18, Items.b(1));
-        host.link.control(2);
-        host.expect("online", 1, 15, Items.row(), 16, Items.b(0));
-        Check.same("offline by the host", host.link.look(2), 1);
-        for (int[] kind : named) {
-            host.expect("by the host " + kind[0] + ", " + kind[1], kind[0], kind[1], Items.row(), 0);
-        }
     }
 
     private static void noReplyWanted() {

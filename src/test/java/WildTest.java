@@ -1,9 +1,14 @@
 import java.util.Random;
 
-/** Any calls in any state: only the exceptions of the document, and answers that agree with one another. */
+/**
+ * Any calls in any state: only the exceptions of the document, and answers that agree with one another.
+ * Behind an object's 512th call the answers are free; that no call fails by itself is asked there too.
+ */
 public final class WildTest {
     private static final int OBJECTS = 4000;
-    private static final int CALLS = 512;
+    private static final int STEPS = 600;
+    /** A step with its checks takes ten calls at the most. */
+    private static final int CHECKED_STEPS = 51;
     private static final String[] COMMANDS = {"START", "STOP", "PAUSE", "GO"};
     private static final int[][] KINDS = {
         {1, 1}, {1, 3}, {1, 13}, {1, 15}, {1, 17}, {2, 15}, {2, 33}, {2, 35}, {2, 37}, {2, 41}, {6, 12}, {1, 14},
@@ -31,17 +36,25 @@ public final class WildTest {
     }
 
     private void run() {
-        for (int i = 0; i < CALLS; i++) {
-            int before = link.said();
-            int answer = call();
-            if (answer >= 0) {
-                Check.same("as many as were said", link.said() - before, answer);
-            }
-            boolean idle = link.look(0) == Host.FREE;
-            Check.no("free with something to be sent", idle && link.look(5) > 0);
-            Check.no("offering nothing", link.look(0) >= Host.OFFERING && link.look(5) == 0);
-            Check.yes("limits", link.look(5) <= 8 && link.look(6) <= 8 && link.look(4) <= 30);
+        for (int i = 0; i < CHECKED_STEPS; i++) {
+            checkedStep();
         }
+        for (int i = CHECKED_STEPS; i < STEPS; i++) {
+            call();
+        }
+    }
+
+    private void checkedStep() {
+        int before = link.said();
+        int answer = call();
+        if (answer >= 0) {
+            Check.same("as many as were said", link.said() - before, answer);
+        }
+        int state = link.look(0);
+        int toBeSent = link.look(5);
+        Check.no("free with something to be sent", state == Host.FREE && toBeSent > 0);
+        Check.no("offering nothing", state >= Host.OFFERING && toBeSent == 0);
+        Check.yes("limits", toBeSent <= 8 && link.look(6) <= 8 && link.look(4) <= 30);
     }
 
     /** What hear or tick answered, or -1. */

@@ -7,6 +7,7 @@ public final class WorkTest {
         timeOfWork();
         pausedTime();
         eventsOfCommands();
+        eventsOfOtherCommands();
         eventOfTime();
         orderInAUnit();
         fullOutbox();
@@ -37,11 +38,11 @@ public final class WorkTest {
     private static void unknownOnes() {
         String[] names = {"", "X", "start", "STAR", "STARTS", "STOPP", "PAUS", "GO ", " GO", "G", "PAUSED", "STAXT",
             "XTART", "XTOP", "XAUSE", "XO"};
-        Host host = Host.online(2);
         for (String name : names) {
+            Host host = Host.online(3);
             host.command(name, 1);
+            Check.same("work", host.link.look(3), 0);
         }
-        Check.same("work", host.link.look(3), 0);
     }
 
     private static void onlyRemote() {
@@ -109,9 +110,13 @@ public final class WorkTest {
         Check.messages("PAUSE", host.command("PAUSE", 0), told(3, 4, 2));
         Check.messages("GO", host.command("GO", 0));
         Check.messages("STOP", host.command("STOP", 0), told(4, 3, 0));
-        Check.messages("STOP again", host.command("STOP", 2));
+    }
+
+    private static void eventsOfOtherCommands() {
+        Host host = Host.reporting();
+        Check.messages("STOP when idle", host.command("STOP", 2));
         int[] start = Items.list(Items.text("START"), Items.list());
-        Check.messages("no reply wanted", host.tell(2, 41, start), told(5, 2, 1));
+        Check.messages("no reply wanted", host.tell(2, 41, start), told(2, 2, 1));
     }
 
     private static void eventOfTime() {
@@ -155,10 +160,7 @@ public final class WorkTest {
         Check.same("eight", host.link.look(5), 8);
         Check.same("one lost", host.link.look(7), 1);
         Check.same("running", host.link.look(3), 1);
-        int[] last = Items.row();
-        for (int[] message : host.hearAll()) {
-            last = message;
-        }
-        Check.same("the event", last, told(9, 2, 1));
+        host.skip(7);
+        Check.same("the event", host.hearMessage(), told(9, 2, 1));
     }
 }
