@@ -10,8 +10,27 @@ final class Check {
 
     private static int wrong = 0;
     private static int made = 0;
+    private static int sentences = 0;
+    private static int madeBefore = -1;
+    private static String sentence = "";
 
     private Check() {
+    }
+
+    /** The checks from here on are the test of this sentence of the document. */
+    static void about(String words) {
+        closeSentence();
+        sentences++;
+        sentence = words;
+        madeBefore = made;
+    }
+
+    /** A sentence that nothing was checked for has no test. */
+    private static void closeSentence() {
+        if (made == madeBefore) {
+            wrong++;
+            System.out.println("nothing is checked for: " + sentence);
+        }
     }
 
     static void same(String what, long got, long want) {
@@ -53,12 +72,14 @@ final class Check {
         made++;
         if (!right) {
             wrong++;
-            System.out.println(what + ": got " + got + ", due is " + want);
+            String where = sentence.isEmpty() ? "" : " [" + sentence + "]";
+            System.out.println(what + ": got " + got + ", due is " + want + where);
         }
     }
 
     static void end() {
-        System.out.println(made + " checks, " + wrong + " wrong");
+        closeSentence();
+        System.out.println(made + " checks of " + sentences + " sentences, " + wrong + " wrong");
         if (wrong != 0) {
             System.exit(1);
         }

@@ -48,6 +48,24 @@ final class Host {
         return host;
     }
 
+    /** So many messages 1, 13 more are to be sent; it is enabled then, and not speaking. */
+    void fill(int messages) {
+        for (int i = 0; i < messages; i++) {
+            if (link.look(1) != 0) {
+                link.enable(false);
+            }
+            link.enable(true);
+        }
+    }
+
+    /** So many talks more are open; it is enabled then, and not speaking. */
+    void openTalks(int talks) {
+        for (int i = 0; i < talks; i++) {
+            fill(1);
+            skip(1);
+        }
+    }
+
     int[] nextSystem() {
         system++;
         return lastSystem();

@@ -1,22 +1,25 @@
-/** Promises 2, 3, 7 and 9: what is to be sent, its handshake, failures and losses. */
+/** Promise 2, THE LINE: what it hears while it offers and waits, failures, losses, and when it offers. */
 public final class SendingTest {
+    private static final int WAYS = 3;
+
     public static void main(String[] args) {
-        offer();
-        wholeBlock();
-        otherBytesWhileOffering();
-        silenceWhileOffering();
-        silenceWhileWaiting();
-        anyOtherByteIsAFailure();
-        lostAfterFourFailures();
-        failuresCountForEachMessage();
+        handshake();
+        offeringHears();
+        theFirstMessage();
+        waitingHears();
+        talksAreOpened();
+        noMoreThanEightTalks();
+        thirdAndFourthFailure();
+        failuresOfEachMessage();
         failuresOfOldOnesAreForgotten();
-        onlyEightAreKept();
-        theOrderStays();
-        units();
+        afterALoss();
+        offersAtTheEndOfEveryCall();
+        offersOnlyWhenFree();
         Check.end();
     }
 
-    private static void offer() {
+    private static void handshake() {
+        Check.about("6: that message was sent, and is not to be sent any more; it is free");
         FabLink link = new FabLink();
         link.enable(true);
         Check.same("offering", link.look(0), Host.OFFERING);
@@ -32,104 +35,168 @@ public final class SendingTest {
         Check.same("sent", link.look(5), 0);
         Check.same("a talk", link.look(6), 1);
         Check.same("said in all", link.said(), 23);
-    }
-
-    private static void wholeBlock() {
-        Host host = new Host();
-        host.link.enable(true);
-        int[] message = host.hearBlock();
-        int[] due = Items.row(128, 1, 129, 13, 128, 1, 0, 0, 0, 1, 1, 2, 65, 2, 'F', 'L', 65, 1, '1');
-        Check.same("1, 13", message, due);
-        Check.same("its length and sum", host.lastSaid(22), Host.block(due));
-    }
-
-    private static void otherBytesWhileOffering() {
-        FabLink link = new FabLink();
-        link.enable(true);
-        for (int b = 0; b < 256; b++) {
-            if (b != 4) {
-                Check.same("offering hears " + b, link.hear(b), 0);
-            }
-        }
-        Check.same("offering", link.look(0), Host.OFFERING);
-        Check.same("4", link.hear(4), 22);
-    }
-
-    private static void silenceWhileOffering() {
-        FabLink link = new FabLink();
-        link.enable(true);
-        Check.same("4 units", link.tick(4), 0);
-        link.hear(5);
-        Check.same("a byte that is nothing does not count", link.tick(1), 1);
-        Check.same("offered again", link.saidAt(1), 5);
-        Check.same("offering", link.look(0), Host.OFFERING);
-        Check.same("counted anew", link.tick(4), 0);
-        Check.same("and again", link.tick(1), 1);
-    }
-
-    private static void silenceWhileWaiting() {
-        FabLink link = new FabLink();
-        link.enable(true);
-        link.tick(4);
-        link.hear(4);
-        Check.same("counted from when it came to wait", link.tick(4), 0);
-        Check.same("waiting", link.look(0), Host.WAITING);
-        Check.same("a failure", link.tick(1), 1);
-        Check.same("offering", link.look(0), Host.OFFERING);
         Check.same("none lost", link.look(7), 0);
     }
 
-    private static void anyOtherByteIsAFailure() {
-        for (int b : new int[] {0, 4, 5, 21, 255}) {
-            FabLink link = new FabLink();
-            link.enable(true);
+    private static Host offering() {
+        Host host = new Host();
+        host.link.enable(true);
+        return host;
+    }
+
+    private static Host waiting() {
+        Host host = offering();
+        host.link.hear(4);
+        return host;
+    }
+
+    private static void offeringHears() {
+        Check.about("offering: 4: it says the block of the first message that is to be sent, and is waiting. "
+                + "Any other byte: nothing.");
+        for (int b = 0; b <= 255; b++) {
+            Host host = offering();
+            Check.same("offering hears " + b, host.link.hear(b), b == 4 ? 22 : 0);
+            Check.same("then it is", host.link.look(0), b == 4 ? Host.WAITING : Host.OFFERING);
+            Check.same("to be sent", host.link.look(5), 1);
+            Check.same("said", host.link.said(), b == 4 ? 23 : 1);
+        }
+        Host host = offering();
+        for (int b = 0; b <= 255; b++) {
+            if (b != 4) {
+                host.link.hear(b);
+            }
+        }
+        Check.same("no failure was counted", host.link.tick(15), 3);
+        Check.same("none lost", host.link.look(7), 0);
+    }
+
+    private static void theFirstMessage() {
+        Check.about("it says the block of the first message that is to be sent");
+        Host host = new Host();
+        host.fill(2);
+        int[] first = Host.own(129, 13, 1, Items.list(Items.text("FL"), Items.text("1")));
+        int[] second = Host.own(129, 13, 2, Items.list(Items.text("FL"), Items.text("1")));
+        Check.same("the first", host.hearBlock(), first);
+        Check.same("length, bytes and sum", host.lastSaid(22), Host.block(first));
+        host.link.hear(21);
+        Check.same("the first again", host.hearBlock(), first);
+        host.link.hear(6);
+        Check.same("the second", host.hearBlock(), second);
+    }
+
+    private static void waitingHears() {
+        Check.about("Any other byte: it was a FAILURE.");
+        for (int b = 0; b <= 255; b++) {
+            Host host = waiting();
+            boolean sent = b == 6;
+            Check.same("waiting hears " + b, host.link.hear(b), sent ? 0 : 1);
+            Check.same("then it is", host.link.look(0), sent ? Host.FREE : Host.OFFERING);
+            Check.same("to be sent", host.link.look(5), sent ? 0 : 1);
+            Check.same("talks", host.link.look(6), sent ? 1 : 0);
+            Check.same("none lost", host.link.look(7), 0);
+        }
+        Host host = waiting();
+        host.link.hear(5);
+        Check.same("5 is no offer to a machine that waits", host.lastSaid(1), Items.row(5));
+        Check.same("the whole block again", host.link.hear(4), 22);
+    }
+
+    private static void talksAreOpened() {
+        Check.about("if the message wants a reply, a TALK is open for it");
+        Host host = Host.enabled();
+        Check.same("its 1, 13 was answered", host.link.look(6), 0);
+        host.ask(1, 13);
+        Check.same("none for a reply", host.link.look(6), 0);
+        host.ask(3, 1);
+        Check.same("none for 9, 3", host.link.look(6), 0);
+        host.openTalks(1);
+        Check.same("one for 1, 13", host.link.look(6), 1);
+        Host ringing = Host.reporting();
+        ringing.link.ring();
+        Check.same("none before it is sent", ringing.link.look(6), 0);
+        ringing.skip(1);
+        Check.same("one for 6, 11", ringing.link.look(6), 1);
+    }
+
+    private static void noMoreThanEightTalks() {
+        Check.about("(not if 8 are open)");
+        Host host = new Host();
+        for (int talks = 1; talks <= 8; talks++) {
+            host.openTalks(1);
+            Check.same("talks", host.link.look(6), talks);
+        }
+        host.openTalks(1);
+        Check.same("no ninth", host.link.look(6), 8);
+        Check.same("sent all the same", host.link.look(5), 0);
+        Check.same("not lost", host.link.look(7), 0);
+        Check.same("free", host.link.look(0), Host.FREE);
+        host.say(host.message(1, 0, Items.row(0, 0, 0, 9)));
+        Check.same("no talk for the ninth", host.link.look(6), 8);
+        host.say(host.message(1, 0, Items.row(0, 0, 0, 8)));
+        Check.same("the eighth", host.link.look(6), 7);
+        host.openTalks(1);
+        Check.same("place for one again", host.link.look(6), 8);
+        host.say(host.message(1, 0, Items.row(0, 0, 0, 10)));
+        Check.same("it was for the tenth", host.link.look(6), 7);
+    }
+
+    /** Fails while it offers, while it waits, or by a byte that is not 6. */
+    private static void fail(FabLink link, int way) {
+        if (way > 0) {
             link.hear(4);
-            Check.same("waiting hears " + b, link.hear(b), 1);
-            Check.same("offering", link.look(0), Host.OFFERING);
-            Check.same("to be sent", link.look(5), 1);
-            Check.same("the whole block again", link.hear(4), 22);
+        }
+        if (way == 2) {
+            link.hear(21);
+        } else {
+            link.tick(5);
         }
     }
 
-    private static void lostAfterFourFailures() {
-        FabLink link = new FabLink();
-        link.enable(true);
-        link.tick(5);
-        link.hear(4);
-        link.hear(21);
-        link.hear(4);
-        link.tick(5);
-        Check.same("three", link.look(7), 0);
-        Check.same("three: to be sent", link.look(5), 1);
-        Check.same("the fourth", link.tick(5), 0);
-        Check.same("lost", link.look(7), 1);
-        Check.same("not to be sent", link.look(5), 0);
-        Check.same("free", link.look(0), Host.FREE);
-        Check.same("no talk", link.look(6), 0);
-        FabLink deaf = new FabLink();
-        deaf.enable(true);
-        Check.same("four times in one tick", deaf.tick(60), 3);
-        Check.same("lost", deaf.look(7), 1);
+    private static void thirdAndFourthFailure() {
+        Check.about("A failure: the machine is free; a message that has had four is LOST, and not to be sent any more.");
+        for (int ways = 0; ways < WAYS * WAYS * WAYS * WAYS; ways++) {
+            FabLink link = new FabLink();
+            link.enable(true);
+            int left = ways;
+            for (int failure = 1; failure <= 4; failure++) {
+                fail(link, left % WAYS);
+                left /= WAYS;
+                boolean lost = failure == 4;
+                Check.same("lost after " + failure, link.look(7), lost ? 1 : 0);
+                Check.same("to be sent after " + failure, link.look(5), lost ? 0 : 1);
+                Check.same("the line after " + failure, link.look(0), lost ? Host.FREE : Host.OFFERING);
+            }
+            Check.same("no talk", link.look(6), 0);
+        }
     }
 
-    private static void failuresCountForEachMessage() {
-        Host host = Host.reporting();
-        Check.yes("ring", host.link.ring());
-        Check.yes("ring", host.link.ring());
-        Check.same("the first fails four times", host.link.tick(20), 4);
-        Check.same("one lost", host.link.look(7), 1);
-        Check.same("the second has three", host.link.tick(15), 3);
-        Check.same("one lost still", host.link.look(7), 1);
-        Check.same("it is sent", host.hearMessage()[9], 3);
-        Check.yes("ring", host.link.ring());
-        Check.same("a new one has none", host.link.tick(15), 3);
-        Check.same("one lost still", host.link.look(7), 1);
-        Check.same("its fourth", host.link.tick(5), 0);
-        Check.same("two lost", host.link.look(7), 2);
+    private static void failuresOfEachMessage() {
+        Check.about("a message that has had four is LOST");
+        Host host = new Host();
+        host.fill(2);
+        for (int i = 0; i < 3; i++) {
+            fail(host.link, 2);
+        }
+        host.skip(1);
+        Check.same("the first was sent after three", host.link.look(6), 1);
+        for (int i = 0; i < 3; i++) {
+            fail(host.link, 2);
+        }
+        Check.same("the second has three of its own", host.link.look(7), 0);
+        host.fill(1);
+        fail(host.link, 2);
+        Check.same("its fourth", host.link.look(7), 1);
+        for (int i = 0; i < 3; i++) {
+            fail(host.link, 0);
+        }
+        Check.same("the third came behind it, and has three", host.link.look(7), 1);
+        fail(host.link, 0);
+        Check.same("its fourth", host.link.look(7), 2);
     }
 
     /** Each of many messages fails three times, and none is lost. */
     private static void failuresOfOldOnesAreForgotten() {
+        Check.about("a message that has had four is LOST");
         FabLink link = new FabLink();
         for (int i = 0; i < 20; i++) {
             link.enable(true);
@@ -145,48 +212,71 @@ public final class SendingTest {
         Check.same("none lost", link.look(7), 0);
     }
 
-    private static void onlyEightAreKept() {
-        Host host = Host.reporting();
-        for (int i = 0; i < 8; i++) {
-            Check.yes("ring", host.link.ring());
-            Check.same("to be sent", host.link.look(5), i + 1);
-        }
-        Check.same("none lost", host.link.look(7), 0);
-        Check.yes("the ninth, lost at once", host.link.ring());
-        Check.same("eight", host.link.look(5), 8);
+    private static void afterALoss() {
+        Check.about("LOST, and not to be sent any more");
+        Host host = new Host();
+        host.fill(2);
+        Check.same("three failures", host.link.tick(15), 3);
+        Check.same("the fourth, and the next is offered", host.link.tick(5), 1);
         Check.same("one lost", host.link.look(7), 1);
-        Check.same("the first number", host.hearMessage()[9], 2);
-        Check.yes("one more", host.link.ring());
-        host.skip(7);
-        Check.same("the lost one had number 10", host.hearMessage()[9], 11);
-        host.link.hear(5);
-        for (int i = 0; i < 9; i++) {
-            host.link.ring();
-        }
-        Check.same("while reading too", host.link.look(7), 2);
+        Check.same("one to be sent", host.link.look(5), 1);
+        Check.same("the second", host.hearMessage()[9], 2);
+        Check.same("nothing more", host.link.look(0), Host.FREE);
+        Check.same("a talk for it alone", host.link.look(6), 1);
     }
 
-    private static void theOrderStays() {
-        Host host = Host.reporting();
-        host.link.ring();
-        host.link.control(2);
-        host.link.ring();
-        int[] values = Items.list(Items.n(3), Items.n(0));
-        int[] later = Items.list(Items.n(2), Items.n(0));
-        Check.messages("as they came", host.hearAll(),
-                Host.own(134, 11, 2, EventTest.body(5, 1, values)),
-                Host.own(134, 11, 3, EventTest.body(1, 1, later)),
-                Host.own(134, 11, 4, EventTest.body(5, 1, later)));
+    private static void offersAtTheEndOfEveryCall() {
+        Check.about("At the end of every call (and of each unit of a tick): "
+                + "if it is free and a message is to be sent, it says 5, and is offering.");
+        Host host = offering();
+        Check.same("enable", host.lastSaid(1), Items.row(5));
+        host.fill(1);
+        host.link.hear(4);
+        Check.same("hear 6", host.link.hear(6), 1);
+        Check.same("5", host.lastSaid(1), Items.row(5));
+        host.link.hear(4);
+        Check.same("hear another", host.link.hear(7), 1);
+        Check.same("5", host.lastSaid(1), Items.row(5));
+        Check.same("a unit", host.link.tick(5), 1);
+        Check.same("5", host.lastSaid(1), Items.row(5));
+        Host reporting = Host.reporting();
+        int said = reporting.link.said();
+        reporting.link.ring();
+        Check.same("ring", reporting.link.said(), said + 1);
+        Check.same("offering", reporting.link.look(0), Host.OFFERING);
+        reporting.skip(1);
+        said = reporting.link.said();
+        reporting.link.control(2);
+        Check.same("control", reporting.link.said(), said + 1);
+        Check.same("offering", reporting.link.look(0), Host.OFFERING);
+        Host read = Host.enabled();
+        Check.same("6, then 5", read.say(read.message(129, 13, read.nextSystem())), Items.row(6, 5));
     }
 
-    private static void units() {
-        FabLink link = new FabLink();
-        link.enable(true);
-        for (int units : new int[] {0, -1, 61, Integer.MIN_VALUE, Integer.MAX_VALUE}) {
-            Check.refuses("tick " + units, IllegalArgumentException.class, () -> link.tick(units));
-        }
-        Check.same("no time went by", link.tick(4), 0);
-        Check.same("1 is enough", link.tick(1), 1);
-        Check.same("60 are not too many", new FabLink().tick(60), 0);
+    private static void offersOnlyWhenFree() {
+        Check.about("if it is free and a message is to be sent, it says 5");
+        Host reading = new Host();
+        reading.link.hear(5);
+        reading.link.enable(true);
+        Check.same("not while reading", reading.link.said(), 1);
+        Check.same("reading", reading.link.look(0), Host.READING);
+        Check.same("a wrong length", reading.link.hear(9), 2);
+        Check.same("21, then 5", reading.lastSaid(2), Items.row(21, 5));
+        reading.fill(1);
+        Check.same("not while offering", reading.link.said(), 3);
+        reading.link.hear(4);
+        reading.fill(1);
+        Check.same("not while waiting", reading.link.said(), 25);
+        Check.same("waiting", reading.link.look(0), Host.WAITING);
+        Host silent = new Host();
+        silent.link.hear(5);
+        silent.link.enable(true);
+        Check.same("silence", silent.link.tick(5), 2);
+        Check.same("21, then 5", silent.lastSaid(2), Items.row(21, 5));
+        Check.same("offering", silent.link.look(0), Host.OFFERING);
+        Host none = new Host();
+        none.link.hear(5);
+        Check.same("none to be sent", none.link.hear(9), 1);
+        Check.same("free", none.link.look(0), Host.FREE);
     }
 }
