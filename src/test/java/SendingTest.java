@@ -15,6 +15,7 @@ public final class SendingTest {
         afterALoss();
         offersAtTheEndOfEveryCall();
         offersOnlyWhenFree();
+        bytesSaidByOneHeard();
         Check.end();
     }
 
@@ -278,5 +279,30 @@ public final class SendingTest {
         none.link.hear(5);
         Check.same("none to be sent", none.link.hear(9), 1);
         Check.same("free", none.link.look(0), Host.FREE);
+    }
+
+    private static void bytesSaidByOneHeard() {
+        Check.about("how many bytes were said by that (also by what is told of the end of a call)");
+        Host host = new Host();
+        Check.same("nothing", host.link.hear(0), 0);
+        Check.same("4", host.link.hear(5), 1);
+        Check.same("21", host.link.hear(9), 1);
+        host.link.hear(5);
+        host.fill(2);
+        Check.same("21 and 5", host.link.hear(131), 2);
+        Check.same("a block of 19 bytes", host.link.hear(4), 22);
+        Check.same("5 for the next", host.link.hear(6), 1);
+        host.link.hear(4);
+        Check.same("nothing behind the last", host.link.hear(6), 0);
+        Host speaking = Host.speaking();
+        speaking.say(speaking.message(129, 17, speaking.nextSystem()));
+        Check.same("a block of 13 bytes", speaking.link.hear(4), 16);
+        speaking.link.hear(6);
+        speaking.say(speaking.message(129, 15, speaking.nextSystem()));
+        Check.same("a block of 10 bytes", speaking.link.hear(4), 13);
+        speaking.link.hear(6);
+        int said = speaking.link.said();
+        speaking.link.hear(5);
+        Check.same("as many as said tells", speaking.link.said(), said + 1);
     }
 }

@@ -4,6 +4,7 @@ public final class SpeakingTest {
         itIsSoAlready();
         enableSendsEachTime();
         notSpeakingYet();
+        disabledAndNotSpeaking();
         disableKeepsTheRest();
         speakingByReply();
         repliesThatAreNone();
@@ -58,19 +59,33 @@ public final class SpeakingTest {
 
     private static void notSpeakingYet() {
         Check.about("The machine is enabled, not speaking yet");
+        FabLink link = new FabLink();
+        link.enable(true);
+        Check.same("enabled", link.look(1), 1);
         Host host = Host.speaking();
         host.link.enable(false);
-        Check.same("disabled and not speaking", host.link.look(1), 0);
         host.link.enable(true);
-        Check.same("enabled, not speaking yet", host.link.look(1), 1);
+        Check.same("enabled again, not speaking yet", host.link.look(1), 1);
         Host reporting = Host.reporting();
         reporting.link.enable(false);
-        Check.no("disabled: nothing is told", reporting.link.ring());
         reporting.link.enable(true);
-        Check.no("not speaking: nothing is told", reporting.link.ring());
+        Check.no("nothing is told", reporting.link.ring());
         reporting.skip(1);
         reporting.tell(1, 13);
         Check.yes("speaking: it is told", reporting.link.ring());
+    }
+
+    private static void disabledAndNotSpeaking() {
+        Check.about("or it is disabled and not speaking");
+        Host host = Host.speaking();
+        int said = host.link.said();
+        host.link.enable(false);
+        Check.same("disabled", host.link.look(1), 0);
+        Check.same("nothing to be sent for it", host.link.look(5), 0);
+        Check.same("nothing said", host.link.said(), said);
+        Host reporting = Host.reporting();
+        reporting.link.enable(false);
+        Check.no("nothing is told", reporting.link.ring());
     }
 
     private static void disableKeepsTheRest() {

@@ -16,6 +16,8 @@ public final class TakingTest {
         offline();
         onlyTwoWhileOffline();
         noReplyWanted();
+        streamBytes();
+        functionOneMore();
         orderOfReasons();
         areYouThere();
         refusedOnesChangeNothing();
@@ -256,6 +258,38 @@ public final class TakingTest {
         Check.same("done", host.link.look(2), 1);
         Check.messages("1, 17", host.tell(1, 17));
         Check.same("done", host.link.look(2), 3);
+    }
+
+    private static void streamBytes() {
+        Check.about("one for the STREAM (128 more when a reply is wanted)");
+        int[][] due = {{1, 0}, {2, 0}, {129, 1}, {130, 1}};
+        for (int[] d : due) {
+            Host host = Host.speaking();
+            host.say(host.message(d[0], d[0] % 128 == 1 ? 1 : 15, host.nextSystem()));
+            Check.same("stream byte " + d[0], host.link.look(5), d[1]);
+        }
+        for (int streamByte : new int[] {0, 3, 127, 128, 131, 255}) {
+            Host host = Host.speaking();
+            int[] message = host.message(streamByte, 1, host.nextSystem());
+            host.say(message);
+            Check.messages("stream byte " + streamByte, host.hearAll(), Host.complaint(3, 2, message));
+        }
+    }
+
+    private static void functionOneMore() {
+        Check.about("If it is: what is said, and the reply with the function one more.");
+        int[] one = Items.list(Items.n(0), Items.list());
+        int[][] bodies = {
+            Items.row(), Items.list(), Items.row(), Items.row(), Items.row(), Items.list(), one, one,
+            Items.list(Items.item(Items.BOOLEAN, 0), Items.list()), Items.list(Items.text(""), Items.list()),
+        };
+        for (int i = 0; i < NAMED.length; i++) {
+            Host host = Host.online(3);
+            int[] reply = host.ask(NAMED[i][0], NAMED[i][1], bodies[i]).get(0);
+            Check.same("the stream", reply[2], NAMED[i][0]);
+            Check.same("the function", reply[3], NAMED[i][1] + 1);
+            Check.same("nothing more", host.link.look(5), 0);
+        }
     }
 
     /** Each message has every later reason too; the first one alone is told. */

@@ -3,6 +3,7 @@ public final class WorkTest {
     private static final String[] NAMES = {"START", "STOP", "PAUSE", "GO"};
 
     public static void main(String[] args) {
+        atFirst();
         commands();
         unknownOnes();
         onlyRemote();
@@ -27,6 +28,16 @@ public final class WorkTest {
         }
         Check.same("work", host.link.look(3), work);
         return host;
+    }
+
+    private static void atFirst() {
+        Check.about("WORK is 0 idle, 1 running, 2 paused, at first 0");
+        Check.same("a new object", new FabLink().look(3), 0);
+        for (int work = 0; work <= 2; work++) {
+            Host host = at(work);
+            Check.same("variable 1", host.link.octet(1, 0), work);
+            Check.same("its format", host.link.format(1), 41);
+        }
     }
 
     private static void commands() {
