@@ -81,7 +81,8 @@ public final class ControlTest {
 
     /**
      * "At first 3" can't be reached: control is 1 only after a 1, 15 that was carried out, so after
-     * control was 2 or 3, and from 0 it becomes that by the operator's choice alone.
+     * control was 2 or 3, and from 0 it becomes that by the operator's choice alone. For the same
+     * reason nothing shows whether 0 leaves the choice as it was.
      */
     private static void chosenFromThenOn() {
         Check.about("2 and 3 are chosen from then on");
