@@ -1,3 +1,4 @@
+import java.util.Arrays;
 import java.util.List;
 
 /** Promises 2, 3 and 4: messages that are to be sent, eight at the most; their headers and numbers. */
@@ -193,13 +194,13 @@ public final class OutboxTest {
         Check.same("its length and sum", host.lastSaid(22), Host.block(due));
         Host reporting = Host.reporting();
         reporting.link.ring();
-        Check.same("6, 11", java.util.Arrays.copyOf(reporting.hearMessage(), 10),
+        Check.same("6, 11", Arrays.copyOf(reporting.hearMessage(), 10),
                 Items.row(128, 1, 134, 11, 128, 1, 0, 0, 0, 2));
         reporting.ask(3, 1);
         reporting.ask(1, 1);
         int[] message = reporting.message(131, 1, reporting.nextSystem());
         reporting.say(message);
-        Check.same("9, 3 wants no reply", java.util.Arrays.copyOf(reporting.hearMessage(), 10),
+        Check.same("9, 3 wants no reply", Arrays.copyOf(reporting.hearMessage(), 10),
                 Items.row(128, 1, 9, 3, 128, 1, 0, 0, 0, 4));
     }
 

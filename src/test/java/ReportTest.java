@@ -1,3 +1,5 @@
+import java.util.Arrays;
+
 /** Promises 10 and 11, and 2, 33, 2, 35 and 2, 37: reports, links and enabled events. */
 public final class ReportTest {
     private static final int[] NONE = {};
@@ -241,7 +243,7 @@ public final class ReportTest {
         Check.about("If one has more than 2: B 1");
         for (int count = 0; count <= 2; count++) {
             Host host = withLinks();
-            link(host, 0, count == 0 ? Items.entry(4) : count == 1 ? Items.entry(4, 1) : Items.entry(4, 1, 3));
+            link(host, 0, Items.entry(4, Arrays.copyOf(new int[] {1, 3}, count)));
             Check.same("reports", host.link.event(4), count);
         }
         notLinked(1, Items.entry(4, 1, 2, 3));

@@ -75,9 +75,9 @@ public final class SaidTest {
             host.link.hear(4);
             host.link.hear(21);
             int said = host.link.said();
-            for (int i2 : new int[] {said - 502, said - 501, said - 1}) {
-                if (i2 >= 0) {
-                    byteAt(host.link, i2, said);
+            for (int place : new int[] {said - 502, said - 501, said - 1}) {
+                if (place >= 0) {
+                    byteAt(host.link, place, said);
                 }
             }
         }
