@@ -94,6 +94,13 @@ public final class BodyTest {
         wrong("a text that takes a byte of what is behind it", 2, 41,
                 Items.join(Items.row(1, 2, 65, 115), Items.zeros(114), Items.list()));
         wrong("a text that would go on behind the 120", 2, 41, Items.join(Items.row(1, 2, 65, 117), Items.zeros(116)));
+        int[] full = Items.join(Items.row(1, 2, 65, 116), Items.zeros(116));
+        Check.same("bytes", full.length, 120);
+        wrong("an item that would begin behind the 120", 2, 41, full);
+        for (int format : new int[] {1, 2, 3, 65, 67, 0}) {
+            wrong("an item whose size would stand behind the 120", 2, 41,
+                    Items.join(Items.row(1, 2, 65, 115), Items.zeros(115), Items.row(format)));
+        }
         int[][] empty = new int[57][];
         Arrays.fill(empty, Items.list());
         int[] crowded = Items.list(Items.item(Items.TEXT), Items.list(empty));
