@@ -162,7 +162,8 @@ public final class FabLink {
         private int count;
 
         void say(int b) {
-            bytes[count % KEPT] = b;
+            // Never below 0, whatever the count: no call may throw by itself.
+            bytes[Math.floorMod(count, KEPT)] = b;
             count++;
         }
 

@@ -5,6 +5,7 @@ public final class BodyTest {
     private static final int[] UNKNOWN = Items.list(Items.b(1), Items.list());
 
     public static void main(String[] args) {
+        nothingOrOneItem();
         noBody();
         oneItemAndNothingBehind();
         greatestBody();
@@ -16,6 +17,8 @@ public final class BodyTest {
         multiples();
         itemInSixOthers();
         numbers();
+        asBytes();
+        anyNumberOfSuch();
         sizesThatAreSaid();
         shapesOfRead();
         shapesOfAssign();
@@ -51,8 +54,17 @@ public final class BodyTest {
         wrong(what, 2, 41, Items.list(text, Items.list()));
     }
 
+    private static void nothingOrOneItem() {
+        Check.about("is its BODY: nothing, or one ITEM: a byte 4 * format + k");
+        right("nothing", 1, 1, Items.row(), Items.list(Items.text("FL"), Items.text("1")));
+        right("one item", 1, 3, Items.list(), Items.list());
+        wrong("an item for nothing", 1, 1, Items.list());
+        wrong("nothing for an item", 1, 3);
+        wrong("two items", 1, 3, Items.list(), Items.list());
+    }
+
     private static void noBody() {
-        Check.about("if its body is not as it must be (an item, and nothing behind it; or none): 9, 7");
+        Check.about("Otherwise: if its body is not as it must be (an item, and nothing behind it; or none): 9, 7");
         for (int[] kind : new int[][] {{1, 1}, {1, 15}, {1, 17}}) {
             wrong("one byte", kind[0], kind[1], Items.row(0));
             wrong("an empty list", kind[0], kind[1], Items.list());
@@ -145,7 +157,7 @@ public final class BodyTest {
     }
 
     private static void itemsOfAList() {
-        Check.about("in a LIST (format 0), so many items");
+        Check.about("and then: in a LIST (format 0), so many items");
         int[] two = Items.join(Items.n(0), Items.n(1));
         right("none", 1, 3, Items.list(), Items.list());
         right("two", 1, 3, Items.join(Items.row(1, 2), two), Items.numbers(3, 0));
@@ -249,6 +261,51 @@ public final class BodyTest {
         right("0 and 255 are numbers", 1, 3, Items.numbers(0, 255), Items.list(Items.n(3), Items.list()));
     }
 
+    /** Byte by byte, as the other tests let Items write what stands in the document. */
+    private static void asBytes() {
+        Check.about("Below, [..] is a list, B x a BINARY item with the byte x, N x a number");
+        right("[N 0, N 6]", 1, 3, Items.row(1, 2, 165, 1, 0, 165, 1, 6), 1, 2, 165, 1, 3, 1, 0);
+        right("[[N 2, B 7]]", 2, 15, Items.row(1, 1, 1, 2, 165, 1, 2, 33, 1, 7), 33, 1, 0);
+        right("[N 0, [[N 1, [N 5]]]]", 2, 33,
+                Items.row(1, 2, 165, 1, 0, 1, 1, 1, 2, 165, 1, 1, 1, 1, 165, 1, 5), 33, 1, 0);
+        right("[N 0, [[N 5, []]]]", 2, 35, Items.row(1, 2, 165, 1, 0, 1, 1, 1, 2, 165, 1, 5, 1, 0), 33, 1, 0);
+        right("[BOOLEAN 1, []]", 2, 37, Items.row(1, 2, 37, 1, 1, 1, 0), 33, 1, 0);
+        right("[TEXT GO, []]", 2, 41, Items.row(1, 2, 65, 2, 71, 79, 1, 0), 1, 2, 33, 1, 2, 1, 0);
+        right("no body", 1, 13, Items.row(), 1, 2, 33, 1, 0, 1, 0);
+        right("no body", 1, 1, Items.row(), 1, 2, 65, 2, 70, 76, 65, 1, 49);
+    }
+
+    /** From none to as many as a body has place for. */
+    private static void anyNumberOfSuch() {
+        Check.about("x* any number of such.");
+        for (int count = 0; count <= 39; count++) {
+            int[] sixes = new int[count];
+            Arrays.fill(sixes, 6);
+            right("[N*] of " + count, 1, 3, Items.numbers(sixes), Items.list(many(count, Items.list())));
+        }
+        for (int count = 0; count <= 14; count++) {
+            right("pairs, " + count, 2, 15, Items.list(many(count, Items.pair(2, Items.n(1)))), Items.b(0));
+        }
+        int[] on = Items.item(Items.BOOLEAN, 1);
+        for (int count = 0; count <= 37; count++) {
+            right("events, " + count, 2, 37, Items.list(on, Items.list(many(count, Items.n(5)))), Items.b(0));
+        }
+        for (int count = 0; count <= 16; count++) {
+            right("reports, " + count, 2, 33, Items.table(many(count, Items.entry(4))), Items.b(0));
+            right("links, " + count, 2, 35, Items.table(many(count, Items.entry(5))), Items.b(0));
+        }
+        for (int count = 4; count <= 34; count++) {
+            right("variables, " + count, 2, 33, Items.table(Items.entry(1, new int[count])), Items.b(1));
+            right("reports of one, " + count, 2, 35, Items.table(Items.entry(1, new int[count])), Items.b(1));
+        }
+    }
+
+    private static int[][] many(int count, int[] item) {
+        int[][] items = new int[count][];
+        Arrays.fill(items, item);
+        return items;
+    }
+
     private static void sizesThatAreSaid() {
         Check.about("what the machine says has k 1");
         for (int k = 1; k <= 3; k++) {
@@ -285,7 +342,7 @@ public final class BodyTest {
     }
 
     private static void shapesOfTables() {
-        Check.about("2, 33 with [N, [[N, [N*]]*]] .. 2, 35 with [N, [[N, [N*]]*]]");
+        Check.about("2, 33 with [N, [[N, [N*]]*]] ... 2, 35 with [N, [[N, [N*]]*]]");
         for (int function = 33; function <= 35; function += 2) {
             right("an empty one", 2, function, Items.table(), Items.b(0));
             right("any first number", 2, function, Items.list(Items.n(255), Items.list()), Items.b(0));
@@ -345,7 +402,7 @@ public final class BodyTest {
     }
 
     private static void refusedBodiesChangeNothing() {
-        Check.about("if its body is not as it must be .. 9, 7");
+        Check.about("if its body is not as it must be ... 9, 7");
         int[] behind = Items.row(0);
         int[] on = Items.list(Items.item(Items.BOOLEAN, 1), Items.list());
         unchanged(1, 15, Items.row(0));

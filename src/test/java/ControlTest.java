@@ -12,7 +12,7 @@ public final class ControlTest {
     }
 
     private static void noneOfThese() {
-        Check.about("The operator sets control to 0, 2 or 3 .. IllegalArgumentException: it is none of these.");
+        Check.about("The operator sets control to 0, 2 or 3 ... IllegalArgumentException: it is none of these.");
         for (int c : new int[] {-1, 1, 4, 5, 255, 256, 258, Integer.MIN_VALUE, Integer.MAX_VALUE}) {
             FabLink link = new FabLink();
             Check.refuses("control " + c, IllegalArgumentException.class, () -> link.control(c));

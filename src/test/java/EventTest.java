@@ -8,6 +8,7 @@ public final class EventTest {
         mustBeLinked();
         mustSpeak();
         mustBeOnline();
+        replyWanted();
         reportsAsLinked();
         firstAndLastReport();
         valuesOfThatMoment();
@@ -112,7 +113,7 @@ public final class EventTest {
     }
 
     private static void mustSpeak() {
-        Check.about("the machine is speaking");
+        Check.about("linked with a report, the machine is speaking");
         Host host = Host.reporting();
         host.link.enable(false);
         Check.no("disabled", host.link.ring());
@@ -137,6 +138,20 @@ public final class EventTest {
         host.tell(1, 15);
         Check.no("1", host.link.ring());
         Check.same("nothing to be sent", host.link.look(5), 0);
+    }
+
+    private static void replyWanted() {
+        Check.about("and control is 2 or 3: message 6, 11, a reply is wanted: "
+                + "[N 0, N event, [[N report, [value*]]*]]");
+        Host host = Host.reporting();
+        host.link.ring();
+        Check.same("6, 11", host.hearBlock(), Items.row(128, 1, 134, 11, 128, 1, 0, 0, 0, 2,
+                1, 3, 165, 1, 0, 165, 1, 5, 1, 1, 1, 2, 165, 1, 1, 1, 2, 165, 1, 3, 165, 1, 0));
+        Check.same("no talk yet", host.link.look(6), 0);
+        host.link.hear(6);
+        Check.same("a talk", host.link.look(6), 1);
+        host.say(host.message(6, 12, Items.row(0, 0, 0, 2), Items.b(0)));
+        Check.same("closed by its reply", host.link.look(6), 0);
     }
 
     private static void reportsAsLinked() {
@@ -172,7 +187,7 @@ public final class EventTest {
     }
 
     private static void valuesOfThatMoment() {
-        Check.about("When one happens .. message 6, 11");
+        Check.about("When one happens ... message 6, 11");
         Host host = Host.reporting();
         host.link.hear(5);
         Check.yes("ring", host.link.ring());

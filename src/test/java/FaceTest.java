@@ -1,10 +1,15 @@
+import java.io.IOException;
 import java.lang.reflect.Constructor;
 import java.lang.reflect.Field;
 import java.lang.reflect.Method;
 import java.lang.reflect.Modifier;
+import java.nio.file.Files;
+import java.nio.file.Path;
 import java.util.Arrays;
 import java.util.Set;
 import java.util.TreeSet;
+import java.util.regex.Matcher;
+import java.util.regex.Pattern;
 
 /** The public face: every constructor and method of the document, and no other. */
 public final class FaceTest {
@@ -23,13 +28,38 @@ public final class FaceTest {
         "int octet(int, int) IndexOutOfBoundsException",
     };
 
-    public static void main(String[] args) {
+    private static final Path DOCUMENT = Path.of("../shared/DOC.md");
+    /** In the document's face, and once more at the head of its promise. */
+    private static final Pattern IN_FACE = Pattern.compile(
+            "^    public (\\w+) (\\w+)\\(([^)]*)\\)(?: throws (\\w+))?;$", Pattern.MULTILINE);
+    private static final Pattern IN_PROMISE = Pattern.compile(
+            "^`(\\w+) (\\w+)\\(([^)]*)\\)(?: throws (\\w+))?`:", Pattern.MULTILINE);
+
+    public static void main(String[] args) throws IOException {
+        String document = Files.readString(DOCUMENT);
+        Check.yes("the document's face", written(document, IN_FACE).equals(face()));
+        Check.yes("the document's promises", written(document, IN_PROMISE).equals(face()));
         Check.same("public and final", FabLink.class.getModifiers(), Modifier.PUBLIC | Modifier.FINAL);
         methods();
         constructors();
         fields();
         classesInside();
         Check.end();
+    }
+
+    private static Set<String> face() {
+        return new TreeSet<>(Arrays.asList(FACE));
+    }
+
+    private static Set<String> written(String document, Pattern form) {
+        Set<String> calls = new TreeSet<>();
+        Matcher m = form.matcher(document);
+        while (m.find()) {
+            String types = m.group(3).replaceAll("(\\w+) \\w+", "$1");
+            String thrown = m.group(4) == null ? "" : " " + m.group(4);
+            calls.add(m.group(1) + " " + m.group(2) + "(" + types + ")" + thrown);
+        }
+        return calls;
     }
 
     private static void methods() {
@@ -43,7 +73,7 @@ public final class FaceTest {
                 Check.yes(m + " is private", Modifier.isPrivate(m.getModifiers()));
             }
         }
-        Check.same("methods: " + visible, visible.equals(new TreeSet<>(Arrays.asList(FACE))) ? 1 : 0, 1);
+        Check.yes("methods: " + visible, visible.equals(face()));
         for (Class<?> inside : FabLink.class.getDeclaredClasses()) {
             for (Method m : inside.getDeclaredMethods()) {
                 Check.no(m + " is private and bears a name of the face",

@@ -3,6 +3,7 @@ public final class LookTest {
     public static void main(String[] args) {
         anyOtherNumber();
         theLine();
+        onlyFourOfTheLine();
         speaking();
         theRest();
         lookingChangesNothing();
@@ -32,6 +33,50 @@ public final class LookTest {
         Check.same("waiting", link.look(0), 3);
         link.hear(6);
         Check.same("free", link.look(0), 0);
+    }
+
+    /** Where each byte and each limit of time leads from each of the four; there is no fifth. */
+    private static void onlyFourOfTheLine() {
+        Check.about("The machine is FREE, READING, OFFERING or WAITING.");
+        for (int state = Host.FREE; state <= Host.WAITING; state++) {
+            for (int b = 0; b <= 255; b++) {
+                FabLink link = lineThatIs(state);
+                link.hear(b);
+                Check.same("from " + state + " by " + b, link.look(0), next(state, b));
+            }
+            FabLink link = lineThatIs(state);
+            link.tick(5);
+            boolean fails = state == Host.OFFERING || state == Host.WAITING;
+            Check.same("from " + state + " by time", link.look(0), fails ? Host.OFFERING : Host.FREE);
+        }
+    }
+
+    private static FabLink lineThatIs(int state) {
+        FabLink link = new FabLink();
+        if (state == Host.READING) {
+            link.hear(5);
+        }
+        if (state == Host.OFFERING || state == Host.WAITING) {
+            link.enable(true);
+        }
+        if (state == Host.WAITING) {
+            link.hear(4);
+        }
+        Check.same("the line", link.look(0), state);
+        return link;
+    }
+
+    private static int next(int state, int b) {
+        switch (state) {
+            case Host.FREE:
+                return b == 5 ? Host.READING : Host.FREE;
+            case Host.READING:
+                return b >= 10 && b <= 130 ? Host.READING : Host.FREE;
+            case Host.OFFERING:
+                return b == 4 ? Host.WAITING : Host.OFFERING;
+            default:
+                return b == 6 ? Host.FREE : Host.OFFERING;
+        }
     }
 
     private static void speaking() {

@@ -39,7 +39,7 @@ public final class NewObjectTest {
     }
 
     private static void twoObjects() {
-        Check.about("FabLink()");
+        Check.about("Disabled, free, nothing to be sent.");
         Host busy = Host.reporting();
         busy.link.ring();
         int[] shown = Shown.all(busy.link);

@@ -256,7 +256,7 @@ public final class OutboxTest {
      * which eight talks and the work end), so 512 calls make fewer than 5000.
      */
     private static void numbersWithAHighByte() {
-        Check.about("by 65536, high byte first");
+        Check.about("also one that is lost at once; by 65536, high byte first");
         Host host = Host.reporting();
         for (int number = 2; number <= 254; number++) {
             host.link.ring();

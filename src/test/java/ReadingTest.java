@@ -17,7 +17,7 @@ public final class ReadingTest {
     }
 
     private static void bytesThatAreNone() {
-        Check.about("A byte is heard: .. IllegalArgumentException: it is not 0 .. 255.");
+        Check.about("A byte is heard: ... IllegalArgumentException: it is not 0 .. 255.");
         FabLink link = new FabLink();
         for (int b : new int[] {-1, 256, 257, 261, -251, Integer.MIN_VALUE, Integer.MAX_VALUE}) {
             Check.refuses("hear " + b, IllegalArgumentException.class, () -> link.hear(b));
@@ -31,7 +31,7 @@ public final class ReadingTest {
     }
 
     private static void freeHearsOnlyFive() {
-        Check.about("free: 5: it says 4, and is reading. Any other byte: nothing.");
+        Check.about("What it HEARS: free: 5: it says 4, and is reading. Any other byte: nothing.");
         for (int b = 0; b <= 255; b++) {
             FabLink link = new FabLink();
             Check.same("free hears " + b, link.hear(b), b == 5 ? 1 : 0);
@@ -44,7 +44,7 @@ public final class ReadingTest {
     }
 
     private static void lengths() {
-        Check.about("A BLOCK is a LENGTH n (10 .. 130)");
+        Check.about("THE LINE. A BLOCK is a LENGTH n (10 .. 130)");
         for (int n = 0; n <= 255; n++) {
             boolean isOne = n >= 10 && n <= 130;
             FabLink link = new FabLink();

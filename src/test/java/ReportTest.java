@@ -8,6 +8,7 @@ public final class ReportTest {
         noSuchReport();
         noSuchEvent();
         defined();
+        replyToReports();
         numbersOfReports();
         variablesOfAReport();
         thereAlready();
@@ -88,6 +89,17 @@ public final class ReportTest {
         reports(host, 1, 0, 2, 0);
     }
 
+    private static void replyToReports() {
+        Check.about("REPORTS. ... A report that is gone is linked with no event any more. Reply B 0.");
+        int[][] tables = {
+            Items.table(), Items.table(Items.entry(1)), Items.table(Items.entry(1, 0)), Items.table(Items.entry(1)),
+        };
+        Host host = Host.online(2);
+        for (int[] table : tables) {
+            Check.messages("2, 34", host.ask(2, 33, table), host.reply(2, 34, Items.row(33, 1, 0)));
+        }
+    }
+
     /** Report 1 alone is there, before and after; nothing else is changed either. */
     private static void notDefined(int due, int[]... entries) {
         Host host = Host.online(3);
@@ -99,7 +111,7 @@ public final class ReportTest {
     }
 
     private static void numbersOfReports() {
-        Check.about("If one, in their order, is not 1 .. 4 .. B 1");
+        Check.about("If one, in their order, is not 1 .. 4 ... B 1");
         for (int r = 1; r <= 4; r++) {
             Host host = Host.online(3);
             define(host, 0, Items.entry(r, 0));
@@ -290,7 +302,7 @@ public final class ReportTest {
     }
 
     private static void switched() {
-        Check.about("these events .. are enabled, or disabled if the byte is 0. Reply B 0");
+        Check.about("these events ... are enabled, or disabled if the byte is 0. Reply B 0");
         Host host = withLinks();
         enable(host, 0, 1, 1, 5, 1);
         events(host, 12, 1, 2, 0, 12);

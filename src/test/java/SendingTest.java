@@ -20,7 +20,7 @@ public final class SendingTest {
     }
 
     private static void handshake() {
-        Check.about("6: that message was sent, and is not to be sent any more; it is free");
+        Check.about("waiting: 6: that message was sent, and is not to be sent any more; it is free");
         FabLink link = new FabLink();
         link.enable(true);
         Check.same("offering", link.look(0), Host.OFFERING);

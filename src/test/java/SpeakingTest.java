@@ -45,7 +45,7 @@ public final class SpeakingTest {
     }
 
     private static void enableSendsEachTime() {
-        Check.about("message 1, 13 is to be sent, a reply wanted, its body [TEXT \"FL\", TEXT \"1\"]");
+        Check.about("and message 1, 13 is to be sent, a reply wanted, its body [TEXT \"FL\", TEXT \"1\"]");
         Host host = new Host();
         for (int number = 1; number <= 3; number++) {
             host.link.enable(true);
@@ -151,7 +151,7 @@ public final class SpeakingTest {
     }
 
     private static void repliesThatAreNone() {
-        Check.about("if a talk is open whose stream is the same, whose system bytes are, "
+        Check.about("An even function: if a talk is open whose stream is the same, whose system bytes are, "
                 + "and whose function is one less than this one (or this one is 0), it is closed");
         int[][] wrong = {
             {1, 14, 0, 0, 0, 2}, {1, 14, 0, 0, 0, 0}, {1, 14, 0, 0, 1, 1}, {1, 14, 0, 1, 0, 1}, {1, 14, 1, 0, 0, 1},

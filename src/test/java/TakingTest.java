@@ -5,6 +5,7 @@ public final class TakingTest {
     };
 
     public static void main(String[] args) {
+        headers();
         disabled();
         highestBit();
         otherDevice();
@@ -30,8 +31,36 @@ public final class TakingTest {
         return other;
     }
 
+    /** Another byte at each of the ten places, and what it is taken for there. */
+    private static void headers() {
+        Check.about("A HEADER is the first 10 bytes of a message: two for the DEVICE, "
+                + "one for the STREAM (128 more when a reply is wanted), one for the FUNCTION, "
+                + "two for the block's number, four SYSTEM bytes.");
+        int[] request = Items.row(0, 1, 129, 1, 128, 1, 11, 22, 33, 44);
+        int[] reasons = {1, 1, 3, 5, 11, 11};
+        for (int place = 0; place < reasons.length; place++) {
+            Host host = Host.online(3);
+            int[] other = with(request, place, 99);
+            host.say(other);
+            Check.messages("place " + place, host.hearAll(), Host.complaint(reasons[place], 2, other));
+        }
+        int[] name = Items.list(Items.text("FL"), Items.text("1"));
+        for (int place = 6; place < 10; place++) {
+            Host host = Host.online(3);
+            int[] other = with(request, place, 99);
+            int[] reply = with(with(with(other, 0, 128), 2, 1), 3, 2);
+            host.say(other);
+            Check.messages("place " + place, host.hearAll(), Items.join(reply, name));
+        }
+        Host host = Host.online(3);
+        host.say(with(request, 2, 1));
+        Check.messages("no reply is wanted", host.hearAll());
+        host.say(Items.join(request, Items.row(99)));
+        Check.messages("the eleventh byte is no more of it", host.hearAll(), Host.complaint(7, 2, request));
+    }
+
     private static void disabled() {
-        Check.about("DISABLED .. nothing");
+        Check.about("DISABLED ... nothing");
         Host host = new Host();
         int[] greeting = host.message(129, 13, host.nextSystem());
         Check.same("1, 13", host.say(greeting), Items.row(6));
@@ -146,7 +175,7 @@ public final class TakingTest {
     }
 
     private static void notSpeaking() {
-        Check.about("if the machine is not speaking and it is not 1, 13: nothing");
+        Check.about("An odd function: if the machine is not speaking and it is not 1, 13: nothing");
         for (int[] kind : NAMED) {
             Host host = Host.enabled();
             host.link.control(3);
@@ -318,7 +347,7 @@ public final class TakingTest {
     }
 
     private static void refusedOnesChangeNothing() {
-        Check.about("message 9, 1 .. message 9, 11 .. 9, 3 .. 9, 5 .. the reply with function 0 and no body");
+        Check.about("message 9, 1 ... message 9, 11 ... 9, 3 ... 9, 5 ... the reply with function 0 and no body");
         int[] on = Items.list(Items.item(Items.BOOLEAN, 1), Items.list());
         Host host = Host.online(3);
         int[] request = host.message(2, 37, host.nextSystem(), on);

@@ -84,7 +84,7 @@ public final class TalkTest {
     }
 
     private static void replyInTime() {
-        Check.about("if a talk is open .. it is closed");
+        Check.about("if a talk is open ... it is closed");
         Host host = new Host();
         host.openTalks(1);
         host.link.tick(44);

@@ -16,7 +16,7 @@ public final class TimeTest {
     }
 
     private static void units() {
-        Check.about("So many units of time go by: .. IllegalArgumentException: not 1 .. 60.");
+        Check.about("So many units of time go by: ... IllegalArgumentException: not 1 .. 60.");
         FabLink link = new FabLink();
         link.enable(true);
         for (int units : new int[] {0, -1, 61, 62, Integer.MIN_VALUE, Integer.MAX_VALUE}) {
@@ -34,7 +34,7 @@ public final class TimeTest {
     }
 
     private static void readingNoByte() {
-        Check.about("When nothing was heard for 5 units of time while it was .. reading no byte yet .. "
+        Check.about("When nothing was heard for 5 units of time while it was ... reading no byte yet ... "
                 + "reading: it says 21, and is free");
         for (int more : new int[] {1, 2, 56, 60}) {
             FabLink link = new FabLink();
@@ -73,7 +73,7 @@ public final class TimeTest {
     }
 
     private static void offering() {
-        Check.about("When nothing was heard for 5 units of time while it was offering .. it was a failure");
+        Check.about("When nothing was heard for 5 units of time while it was offering ... else it was a failure");
         FabLink link = new FabLink();
         link.enable(true);
         for (int failures = 1; failures <= 3; failures++) {
@@ -89,7 +89,7 @@ public final class TimeTest {
     }
 
     private static void waiting() {
-        Check.about("When nothing was heard for 5 units of time while it was .. waiting .. it was a failure");
+        Check.about("When nothing was heard for 5 units of time while it was ... waiting ... else it was a failure");
         FabLink link = new FabLink();
         link.enable(true);
         for (int failures = 1; failures <= 3; failures++) {
@@ -108,7 +108,7 @@ public final class TimeTest {
     }
 
     private static void fromWhenItCameToRead() {
-        Check.about("Units are counted from when it came to .. read");
+        Check.about("Units are counted from when it came to ... or read");
         FabLink link = new FabLink();
         link.tick(4);
         link.hear(5);
@@ -145,7 +145,7 @@ public final class TimeTest {
     }
 
     private static void fromWhenItCameToWait() {
-        Check.about("Units are counted from when it came to .. wait");
+        Check.about("Units are counted from when it came to ... wait");
         FabLink link = new FabLink();
         link.enable(true);
         link.tick(4);

@@ -31,7 +31,7 @@ public final class UnitTest {
     }
 
     private static void talksBeforeWork() {
-        Check.about("IN EACH UNIT of a tick: talks .. work");
+        Check.about("IN EACH UNIT of a tick: talks ... work");
         Host host = talkAndWorkEnd(0);
         Check.messages("9, 9, then 6, 11", host.hearAll(),
                 Host.own(9, 9, 4, Items.row(33, 10, 128, 1, 134, 11, 128, 1, 0, 0, 0, 2)),
@@ -39,7 +39,7 @@ public final class UnitTest {
     }
 
     private static void placeForTheTalkAlone() {
-        Check.about("IN EACH UNIT of a tick: talks .. work");
+        Check.about("IN EACH UNIT of a tick: talks ... work");
         Host host = talkAndWorkEnd(7);
         Check.same("eight", host.link.look(5), 8);
         Check.same("the event's is lost at once", host.link.look(7), 1);
@@ -49,7 +49,7 @@ public final class UnitTest {
 
     /** The first of eight is lost in the unit in which the talk ends: for the 9, 9 that is too late. */
     private static void talksBeforeTheLine() {
-        Check.about("IN EACH UNIT of a tick: talks .. the line");
+        Check.about("IN EACH UNIT of a tick: talks ... the line");
         Host host = new Host();
         host.openTalks(1);
         host.link.tick(25);
@@ -62,7 +62,7 @@ public final class UnitTest {
     }
 
     private static void workBeforeTheLine() {
-        Check.about("IN EACH UNIT of a tick: .. work; the line");
+        Check.about("IN EACH UNIT of a tick: ... work; the line");
         Host host = Host.reporting();
         host.tell(2, 41, Items.list(Items.text("START"), Items.list()));
         host.link.tick(10);
@@ -92,7 +92,7 @@ public final class UnitTest {
     }
 
     private static void readingEndsInTheSameUnit() {
-        Check.about("talks .. the line");
+        Check.about("talks ... the line");
         Host host = new Host();
         host.openTalks(1);
         host.link.tick(40);

@@ -195,7 +195,7 @@ public final class VariableTest {
     }
 
     private static void itemsThatAreLists() {
-        Check.about("or else if one item is a list .. B 3");
+        Check.about("or else if one item is a list ... B 3");
         int[] good = Items.pair(2, Items.n(1));
         assign("an empty list", 3, Items.pair(2, Items.list()));
         assign("a list of one", 3, Items.pair(2, Items.list(Items.n(1))));
@@ -217,7 +217,7 @@ public final class VariableTest {
     }
 
     private static void nothingIsChanged() {
-        Check.about("B 1; or else .. B 3; then nothing is changed");
+        Check.about("B 1; or else ... B 3; then nothing is changed");
         Host host = Host.online(3);
         int[] good = Items.pair(2, Items.b(77));
         int[] before = Shown.kept(host.link);

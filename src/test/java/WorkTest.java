@@ -5,6 +5,7 @@ public final class WorkTest {
     public static void main(String[] args) {
         atFirst();
         commands();
+        repliesToCommands();
         unknownOnes();
         onlyRemote();
         startBeginsTheTime();
@@ -12,6 +13,7 @@ public final class WorkTest {
         timeOfWork();
         timeWhilePaused();
         eventsOfCommands();
+        eventOfEachCommand();
         eventsOfRefusedCommands();
         eventOfTime();
         fullOutbox();
@@ -41,8 +43,8 @@ public final class WorkTest {
     }
 
     private static void commands() {
-        Check.about("2 if .. work is not as it must be: START when 0: work is 1 .. STOP when 1 or 2: work is 0 .. "
-                + "PAUSE when 1: work is 2 .. GO when 2: work is 1. Then x is 0.");
+        Check.about("2 if ... work is not as it must be: START when 0: work is 1 ... STOP when 1 or 2: work is 0 ... "
+                + "PAUSE when 1: work is 2 ... GO when 2: work is 1. Then x is 0.");
         int[][] next = {{1, -1, -1, -1}, {-1, 0, 2, -1}, {-1, 0, -1, 1}};
         for (int work = 0; work <= 2; work++) {
             for (int i = 0; i < NAMES.length; i++) {
@@ -56,6 +58,17 @@ public final class WorkTest {
                     Check.same("nothing is changed", Shown.kept(host.link), before);
                 }
             }
+        }
+    }
+
+    private static void repliesToCommands() {
+        Check.about("2, 41 with [TEXT, list]: a command; reply [B x, []]");
+        Host host = Host.online(3);
+        String[] names = {"FLY", "START", "START", "PAUSE", "GO", "STOP", "STOP"};
+        int[] due = {1, 0, 2, 0, 0, 0, 2};
+        for (int i = 0; i < names.length; i++) {
+            Check.messages(names[i], host.ask(2, 41, Items.list(Items.text(names[i]), Items.list())),
+                    host.reply(2, 42, Items.row(1, 2, 33, 1, due[i], 1, 0)));
         }
     }
 
@@ -177,6 +190,23 @@ public final class WorkTest {
         Host other = Host.reporting();
         int[] start = Items.list(Items.text("START"), Items.list());
         Check.messages("no reply wanted", other.tell(2, 41, start), told(2, 2, 1));
+    }
+
+    private static void eventOfEachCommand() {
+        Check.about("PAUSE when 1: work is 2; event 4. GO when 2: work is 1. Then x is 0.");
+        Host host = Host.reporting();
+        host.tell(2, 41, Items.list(Items.text("START"), Items.list()));
+        Check.messages("PAUSE", host.command("PAUSE", 0), told(3, 4, 2));
+        Check.messages("GO", host.command("GO", 0));
+        Check.messages("PAUSE again", host.command("PAUSE", 0), told(4, 4, 2));
+        for (int work = 1; work <= 2; work++) {
+            Host other = Host.reporting();
+            other.tell(2, 41, Items.list(Items.text("START"), Items.list()));
+            if (work == 2) {
+                other.tell(2, 41, Items.list(Items.text("PAUSE"), Items.list()));
+            }
+            Check.messages("STOP when " + work, other.command("STOP", 0), told(work + 2, 3, 0));
+        }
     }
 
     private static void eventsOfRefusedCommands() {
