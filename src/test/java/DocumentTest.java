@@ -2,6 +2,7 @@ import java.io.IOException;
 import java.nio.file.DirectoryStream;
 import java.nio.file.Files;
 import java.nio.file.Path;
+import java.util.Arrays;
 import java.util.regex.Matcher;
 import java.util.regex.Pattern;
 
@@ -86,7 +87,7 @@ public final class DocumentTest {
                 return;
             }
             from = at + part.length();
-            java.util.Arrays.fill(quoted, at, from, true);
+            Arrays.fill(quoted, at, from, true);
         }
     }
 

@@ -1,6 +1,7 @@
 import java.io.IOException;
 import java.lang.reflect.Method;
 import java.lang.reflect.Modifier;
+import java.nio.file.DirectoryStream;
 import java.nio.file.Files;
 import java.nio.file.Path;
 import java.util.List;
@@ -13,6 +14,7 @@ public final class ReadmeTest {
     public static void main(String[] args) throws IOException {
         List<String> readme = Files.readAllLines(README);
         everyCallHasARow(readme);
+        howToMakeOneAndToTest(String.join("\n", readme));
         everyTestIsNamed(String.join("\n", readme));
         exampleIsTheOneBelow(readme);
         example();
@@ -44,11 +46,14 @@ public final class ReadmeTest {
         return thrown.length == 0 ? "nothing" : "`" + thrown[0].getSimpleName() + "`";
     }
 
-    private static void everyTestIsNamed(String readme) throws IOException {
+    private static void howToMakeOneAndToTest(String readme) {
         for (String words : new String[] {"`new FabLink()`", "512 calls", ".ci/run", "`javac` and `java`", "`../shared`"}) {
             Check.yes("README.md has " + words, readme.contains(words));
         }
-        try (var tests = Files.newDirectoryStream(HERE.getParent(), "*Test.java")) {
+    }
+
+    private static void everyTestIsNamed(String readme) throws IOException {
+        try (DirectoryStream<Path> tests = Files.newDirectoryStream(HERE.getParent(), "*Test.java")) {
             for (Path test : tests) {
                 String name = test.getFileName().toString().replace(".java", "");
                 Check.yes("README.md names " + name, readme.contains("`" + name + "`"));
